@@ -14,6 +14,8 @@ public final class BestTest {
         fewest();
         other();
         first();
+        kindAfter200();
+        firstAfter200();
         Random random = new Random(16);
         for (int i = 0; i < 60; i++) {
             byTryingAll(AvenueMaker.make(random), random);
@@ -59,6 +61,8 @@ public final class BestTest {
         Checks.due("18 begin(2, 20)", x.begin(2, 20), 10);
         Checks.due("18 begin(2, 1)", x.begin(2, 1), 0);
         Checks.due("18 begin(0, 20), as many anywhere", x.begin(0, 20), 0);
+        BackAvenue y = Checks.quiet("walker at 97 pace 1; walker at 0 pace 9; blind at 97 pace 0");
+        Checks.due("18 begin(1, 20), best through at once", y.begin(1, 20), 99);
         Checks.due("18 of(2, 1), nothing changes", x.of(2, 1), 5);
         Checks.due("18 begin(2, 0)", x.begin(2, 0), BEYOND);
         Checks.due("18 begin(2, 21)", x.begin(2, 21), BEYOND);
@@ -69,6 +73,8 @@ public final class BestTest {
     private static void fewest() {
         BackAvenue x = new BackAvenue();
         Checks.due("19 fewest(1) of nobody", x.fewest(1), 0);
+        x = Checks.quiet("walker at 10; blind at 11 pace 0");
+        Checks.due("19 fewest(1) of two", x.fewest(1), 1);
         x = Checks.quiet("walker at 90; walker at 10; blind at 11 pace 0; walker at 50; blind at 51 pace 0");
         Checks.due("19 fewest(1)", x.fewest(1), 2 + 8);
         x.set(1, 4, 1);
@@ -108,6 +114,23 @@ public final class BestTest {
         Checks.due("21 first(), one is already", x.first(), 4);
         x = Checks.quiet("walker at 10 pace 0; walker at 98 pace 0");
         Checks.due("21 first(), nobody is", x.first(), NONE);
+    }
+
+    private static void kindAfter200() {
+        BackAvenue x = Checks.quiet("walker at 3 pace 0 round; envoy at 98 back pace 1; soldier at 19 pace 0 round; trams");
+        x.minutes(13);
+        Checks.due("17 kind(0), through in 201", x.kind(0), NONE);
+        x.minutes(1);
+        Checks.due("17 kind(0), through in 200", x.kind(0), 5);
+    }
+
+    private static void firstAfter200() {
+        BackAvenue x = Checks.quiet(
+            "thief at 16 pace 0; soldier at 0 pace 0 round; lover at 92 back pace 1 round; thief at 91 pace 0");
+        x.minutes(12);
+        Checks.due("21 first() in 201", x.first(), NONE);
+        x.minutes(1);
+        Checks.due("21 first() in 200", x.first(), 2);
     }
 
     private static void byTryingAll(BackAvenue x, Random random) {

@@ -37,13 +37,15 @@ final class Checks {
         }
     }
 
-    /** An avenue without trams, told as its text. */
-    static BackAvenue quiet(String text) {
+    /** An avenue without trams, told as one text or several. */
+    static BackAvenue quiet(String... texts) {
         BackAvenue x = new BackAvenue();
         x.trams(0);
-        feed(x, text);
-        int items = x.avenue();
-        due("avenue() of '" + text + "' is below 1: 0", items < 1 ? 1 : 0, 0);
+        for (String text : texts) {
+            feed(x, text);
+            int items = x.avenue();
+            due("avenue() of '" + text + "' is a fault: 0", items < 1 ? 1 : 0, 0);
+        }
         return x;
     }
 }

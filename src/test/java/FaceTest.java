@@ -71,7 +71,7 @@ public final class FaceTest {
         }
     }
 
-    /** Reflection tells what the machine throws, so a throw in any call ends this test. */
+    /** Reflection tells what the machine throws, so a throw in any call ends this test; each finding is counted once. */
     private static void neverThrows() throws ReflectiveOperationException {
         java.util.Random random = new java.util.Random(7);
         for (int run = 0; run < 60; run++) {
@@ -84,7 +84,10 @@ public final class FaceTest {
                     int v = random.nextInt(3) > 0 ? random.nextInt(9) : WILD[random.nextInt(WILD.length)];
                     values[k] = types[k] == long.class ? (Object) Long.valueOf(v) : (Object) Integer.valueOf(v);
                 }
-                m.invoke(x, values);
+                int before = x.status(-1);
+                long answer = ((Number) m.invoke(x, values)).longValue();
+                int due = answer >= Checks.SIZE && answer <= Checks.BEYOND ? before + 1 : before;
+                Checks.due("35 status(-1) behind " + m.getName() + Arrays.toString(values), x.status(-1), due);
             }
         }
     }

@@ -121,7 +121,13 @@ public final class ImagesTest {
         x.copy(0, 0, 1, 0, 0);
         x.lays(2);
         x.sheet(0, 8, -1);
-        int[] due = {3, 2, 1, 1, 0, 4, 1};
+        x.sheet(0, 8, 1);
+        x.sheet(1, 16, 1);
+        x.copy(0, 0, 1, 0, 1);
+        for (int i = 0; i < 31; i++) {
+            x.feed(0, 4);
+        }
+        int[] due = {3, 3, 2, 1, 0, 4, 1};
         int all = 0;
         for (int which = 0; which < due.length; which++) {
             Checks.due("35 status(" + which + ")", x.status(which), due[which]);

@@ -16,6 +16,9 @@ public final class MinutesTest {
         through();
         bumps();
         meet();
+        throughAfter200();
+        bumpsAfter200();
+        meetAfter200();
         Checks.end();
     }
 
@@ -265,5 +268,36 @@ public final class MinutesTest {
         Checks.due("15 meet(0, 1) behind a bump", x.meet(0, 1), 3);
         x = Checks.quiet("walker at 2 back pace 0; walker at 0 back");
         Checks.due("15 meet(0, 1), one is through", x.meet(0, 1), Checks.NONE);
+    }
+
+    /** Slow ones that wait for one another long enough; PlainModel says the same of them. */
+    private static void throughAfter200() {
+        BackAvenue x = Checks.quiet(
+            "thief at 16 pace 0; soldier at 0 pace 0 round; lover at 92 back pace 1 round; thief at 91 pace 0");
+        x.minutes(12);
+        Checks.due("13 through(2) in 201", x.through(2), Checks.NONE);
+        x.minutes(1);
+        Checks.due("13 through(2) in 200", x.through(2), 200);
+        x.minutes(1);
+        Checks.due("13 through(2) in 199", x.through(2), 199);
+    }
+
+    private static void bumpsAfter200() {
+        BackAvenue x = Checks.quiet(
+            "lover at 98 pace 0; walker at 10 back pace 0; lover at 7 back pace 2; lover at 53 back pace 1",
+            "lover at 23 pace 1; soldier at 97 back pace 1 round");
+        x.minutes(11);
+        Checks.due("14 bumps(0) in 201", x.bumps(0), Checks.NONE);
+        x.minutes(1);
+        Checks.due("14 bumps(0) in 200", x.bumps(0), 200);
+    }
+
+    private static void meetAfter200() {
+        BackAvenue x = Checks.quiet(
+            "envoy at 12 pace 0; lover at 93 back pace 1; soldier at 88 back pace 1; lover at 97 back pace 0 round",
+            "lover at 16 pace 0; lover at 15 pace 1");
+        Checks.due("15 meet(0, 1) in 201", x.meet(0, 1), Checks.NONE);
+        x.minutes(1);
+        Checks.due("15 meet(0, 1) in 200", x.meet(0, 1), 200);
     }
 }

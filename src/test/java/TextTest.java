@@ -97,6 +97,12 @@ public final class TextTest {
         fault("|walkers at 5");
         fault("|Walker at 5");
         fault("|walkerat 5");
+        fault("|tramsz");
+        fault("|atrams");
+        fault("trams|{");
+        fault("trams|`");
+        fault("trams|:");
+        fault("trams|/");
         fault("|at 5");
         fault("|5");
         fault("|;trams");
