@@ -117,7 +117,8 @@ public final class BestTest {
     }
 
     private static void kindAfter200() {
-        BackAvenue x = Checks.quiet("walker at 3 pace 0 round; envoy at 98 back pace 1; soldier at 19 pace 0 round; trams");
+        BackAvenue x = Checks.quiet(
+            "walker at 3 pace 0 round; envoy at 98 back pace 1; soldier at 19 pace 0 round; trams");
         x.minutes(13);
         Checks.due("17 kind(0), through in 201", x.kind(0), NONE);
         x.minutes(1);

@@ -64,14 +64,15 @@ public final class FaceTest {
         String code = source.replaceAll("(?s)/\\*.*?\\*/", "").replaceAll("//[^\n]*", "");
         String[] barred = {
             "\\bthrow\\b", "\\btry\\b", "\\bcatch\\b", "\\bsynchronized\\b", "\\bassert\\b", "->", "::", "Exact\\(",
-            "\\bRandom\\b", "currentTimeMillis", "nanoTime", "\\bpackage\\b", "\\bvar\\b", "import (?!java\\.util\\.Arrays;)"};
+            "\\bRandom\\b", "currentTimeMillis", "nanoTime", "\\bpackage\\b", "\\bvar\\b",
+            "import (?!java\\.util\\.Arrays;)"};
         for (String rule : barred) {
             Matcher m = Pattern.compile(rule).matcher(code);
             Checks.due("in the source: " + rule, m.find() ? 1 : 0, 0);
         }
     }
 
-    /** Reflection tells what the machine throws, so a throw in any call ends this test; each finding is counted once. */
+    /** Reflection tells what the machine throws, so a throw in any call ends this test; findings are counted. */
     private static void neverThrows() throws ReflectiveOperationException {
         java.util.Random random = new java.util.Random(7);
         for (int run = 0; run < 60; run++) {

@@ -45,7 +45,8 @@ public final class ModelTest {
         one.pace = random.nextInt(10);
         one.round = random.nextInt(4) == 0;
         model.ones.add(one);
-        Checks.feed(x, one.kind + " at " + place + (one.up ? "" : " back") + " pace " + one.pace + (one.round ? " round" : ""));
+        String way = one.up ? "" : " back";
+        Checks.feed(x, one.kind + " at " + place + way + " pace " + one.pace + (one.round ? " round" : ""));
         Checks.due(run + "avenue()", x.avenue(), 1);
     }
 

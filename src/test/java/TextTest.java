@@ -47,7 +47,8 @@ public final class TextTest {
     private static void itemsCome() {
         BackAvenue x = new BackAvenue();
         x.walker(1, 9);
-        Checks.feed(x, "walker at 5; lover at 0 back; quiet; soldier at 99 pace 0; thief at 7 round ; blind at 8 back pace 9 round");
+        Checks.feed(x, "walker at 5; lover at 0 back; quiet; soldier at 99 pace 0; thief at 7 round ; "
+            + "blind at 8 back pace 9 round");
         Checks.due("24 avenue()", x.avenue(), 6);
         Checks.due("24 count(1), THE TAPE is empty", x.count(1), 0);
         Checks.due("24 count(0)", x.count(0), 6);
