@@ -5,6 +5,7 @@ import java.lang.reflect.Modifier;
 import java.nio.file.Files;
 import java.nio.file.Path;
 import java.util.Arrays;
+import java.util.Random;
 import java.util.Set;
 import java.util.TreeSet;
 import java.util.regex.Matcher;
@@ -12,7 +13,7 @@ import java.util.regex.Pattern;
 import java.util.stream.Collectors;
 
 /** The public face, the rules of LANGUAGE.md that a look at the source can tell, and calls with wild arguments. */
-public final class FaceTest {
+public final class FaceTest extends Checks {
     private static final String[] FACE = {
         "int trams(int)", "int walker(int,int)", "int of(int,int)", "int set(int,int,int)", "int turn(int,int)",
         "int as(int,int)", "int sees(int)", "int leader(int)", "int minutes(int)", "int now(int)",
@@ -24,14 +25,11 @@ public final class FaceTest {
     private static final int[] WILD = {
         0, 1, 2, 3, 4, 5, 6, 7, 8, 9, 16, 20, 40, 64, 99, 100, 200, -1, -2, 1000, Integer.MAX_VALUE, Integer.MIN_VALUE};
 
-    public static void main(String[] args) throws ReflectiveOperationException, IOException {
-        face();
-        rulesOfTheLanguage();
-        neverThrows();
-        Checks.end();
+    public static void main(String[] args) {
+        run(FaceTest.class);
     }
 
-    private static void face() {
+    static void face() {
         Set<String> publics = new TreeSet<>();
         Set<String> names = new TreeSet<>();
         for (Method m : BackAvenue.class.getDeclaredMethods()) {
@@ -40,17 +38,17 @@ public final class FaceTest {
                 names.add(m.getName());
             }
         }
-        Checks.due("the face is the document's", publics.equals(new TreeSet<>(Arrays.asList(FACE))) ? 1 : 0, 1);
-        Checks.due("the class is public and final", BackAvenue.class.getModifiers(), Modifier.PUBLIC | Modifier.FINAL);
+        due("the face is the document's", publics.equals(new TreeSet<>(Arrays.asList(FACE))) ? 1 : 0, 1);
+        due("the class is public and final", BackAvenue.class.getModifiers(), Modifier.PUBLIC | Modifier.FINAL);
         Constructor<?>[] constructors = BackAvenue.class.getDeclaredConstructors();
-        Checks.due("constructors", constructors.length, 1);
+        due("constructors", constructors.length, 1);
         for (Method m : BackAvenue.class.getDeclaredMethods()) {
             boolean isPrivate = Modifier.isPrivate(m.getModifiers());
             boolean fits = isPrivate ? !names.contains(m.getName()) : Modifier.isPublic(m.getModifiers());
-            Checks.due("rule 1 of " + m.getName(), fits ? 1 : 0, 1);
+            due("rule 1 of " + m.getName(), fits ? 1 : 0, 1);
         }
         for (var f : BackAvenue.class.getDeclaredFields()) {
-            Checks.due("field " + f.getName() + " is private", Modifier.isPrivate(f.getModifiers()) ? 1 : 0, 1);
+            due("field " + f.getName() + " is private", Modifier.isPrivate(f.getModifiers()) ? 1 : 0, 1);
         }
     }
 
@@ -59,7 +57,7 @@ public final class FaceTest {
         return m.getReturnType().getName() + " " + m.getName() + "(" + types + ")";
     }
 
-    private static void rulesOfTheLanguage() throws IOException {
+    static void rulesOfTheLanguage() throws IOException {
         String source = Files.readString(Path.of("src/main/java/BackAvenue.java"));
         String code = source.replaceAll("(?s)/\\*.*?\\*/", "").replaceAll("//[^\n]*", "");
         String[] barred = {
@@ -68,16 +66,16 @@ public final class FaceTest {
             "import (?!java\\.util\\.Arrays;)"};
         for (String rule : barred) {
             Matcher m = Pattern.compile(rule).matcher(code);
-            Checks.due("in the source: " + rule, m.find() ? 1 : 0, 0);
+            due("in the source: " + rule, m.find() ? 1 : 0, 0);
         }
     }
 
     /** Reflection tells what the machine throws, so a throw in any call ends this test; findings are counted. */
-    private static void neverThrows() throws ReflectiveOperationException {
-        java.util.Random random = new java.util.Random(7);
-        for (int run = 0; run < 60; run++) {
+    static void neverThrows() throws ReflectiveOperationException {
+        Random random = new Random(7);
+        for (int run = 0; run < 150; run++) {
             BackAvenue x = run % 2 == 0 ? new BackAvenue() : AvenueMaker.make(random);
-            for (int i = 0; i < 450; i++) {
+            for (int i = 0; i < 150; i++) {
                 Method m = methodOf(FACE[random.nextInt(FACE.length)]);
                 Class<?>[] types = m.getParameterTypes();
                 Object[] values = new Object[types.length];
@@ -87,8 +85,8 @@ public final class FaceTest {
                 }
                 int before = x.status(-1);
                 long answer = ((Number) m.invoke(x, values)).longValue();
-                int due = answer >= Checks.SIZE && answer <= Checks.BEYOND ? before + 1 : before;
-                Checks.due("35 status(-1) behind " + m.getName() + Arrays.toString(values), x.status(-1), due);
+                int due = answer >= SIZE && answer <= BEYOND ? before + 1 : before;
+                due("35 status(-1) behind " + m.getName() + Arrays.toString(values), x.status(-1), due);
             }
         }
     }

@@ -2,6 +2,8 @@ import java.util.ArrayList;
 import java.util.Comparator;
 import java.util.List;
 import java.util.Optional;
+import java.util.function.Consumer;
+import java.util.function.ToIntFunction;
 
 /** Section 1 of the document told a second time, in another way than the class tells it: one object a walker. */
 final class PlainModel {
@@ -21,6 +23,16 @@ final class PlainModel {
             this.place = place;
         }
 
+        One copy() {
+            One copy = new One(number, kind, place);
+            copy.pace = pace;
+            copy.up = up;
+            copy.round = round;
+            copy.fines = fines;
+            copy.bumps = bumps;
+            return copy;
+        }
+
         boolean through() {
             return up ? place == 99 : place == 0;
         }
@@ -35,6 +47,68 @@ final class PlainModel {
     final List<One> ones = new ArrayList<>();
     boolean trams = true;
     int minute = 0;
+
+    /** The model of what an object tells of itself. */
+    static PlainModel of(BackAvenue x) {
+        PlainModel model = new PlainModel();
+        model.minute = x.now(0);
+        model.trams = x.now(1) == 1;
+        for (int w = 0; w < x.count(0); w++) {
+            One one = new One(w, KINDS[x.of(w, 0)], x.of(w, 1));
+            one.up = x.of(w, 2) == 1;
+            one.pace = x.of(w, 3);
+            one.round = x.of(w, 4) == 1;
+            one.fines = x.of(w, 5);
+            one.bumps = x.of(w, 6);
+            model.ones.add(one);
+        }
+        return model;
+    }
+
+    PlainModel copy() {
+        PlainModel copy = new PlainModel();
+        copy.minute = minute;
+        copy.trams = trams;
+        for (One one : ones) {
+            copy.ones.add(one.copy());
+        }
+        return copy;
+    }
+
+    /** A copy in which one is otherwise. */
+    PlainModel with(int w, Consumer<One> otherwise) {
+        PlainModel copy = copy();
+        otherwise.accept(copy.ones.get(w));
+        return copy;
+    }
+
+    /** A copy some MINUTES on. */
+    PlainModel on(int minutes) {
+        PlainModel copy = copy();
+        for (int i = 0; i < minutes; i++) {
+            copy.pass();
+        }
+        return copy;
+    }
+
+    int sum(ToIntFunction<One> what) {
+        return ones.stream().mapToInt(what).sum();
+    }
+
+    int throughSet() {
+        return sum(o -> o.through() ? 1 << o.number : 0);
+    }
+
+    /** In how many of 0 to 200 MINUTES one is THROUGH first; 201 if in none. */
+    int minutesTillThrough(int w) {
+        PlainModel later = copy();
+        int n = 0;
+        while (n <= 200 && !later.ones.get(w).through()) {
+            later.pass();
+            n++;
+        }
+        return n;
+    }
 
     int sight(String kind) {
         return switch (kind) {
@@ -52,6 +126,10 @@ final class PlainModel {
         int from = toLesser ? one.place - sight(one.kind) : one.place + 1;
         int to = toLesser ? one.place - 1 : one.place + sight(one.kind);
         return ones.stream().filter(o -> !o.through() && o.place >= from && o.place <= to).toList();
+    }
+
+    boolean meet(int w, int other) {
+        return seen(ones.get(w)).contains(ones.get(other)) && seen(ones.get(other)).contains(ones.get(w));
     }
 
     Optional<One> leader(One one) {
