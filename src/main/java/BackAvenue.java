@@ -547,26 +547,48 @@ public final class BackAvenue {
     private static final class Kinds {
         static final int LAST = 5;
 
+        private static final int WALKER = 0;
         private static final int LOVER = 1;
         private static final int SOLDIER = 2;
         private static final int THIEF = 3;
         private static final int BLIND = 4;
         private static final int ENVOY = 5;
 
-        private static final int[] ABOVE = {-1, 0, 0, 0, LOVER, SOLDIER};
-        private static final int[] SIGHT = {20, 20 + 10, 20, 20 / 2, 0, 2 * 20};
+        private static final int WALKERS_SIGHT = 20;
 
         static int sight(int kind) {
-            return SIGHT[kind];
+            switch (kind) {
+                case LOVER:
+                    return WALKERS_SIGHT + 10;
+                case THIEF:
+                    return WALKERS_SIGHT / 2;
+                case BLIND:
+                    return 0;
+                case ENVOY:
+                    return 2 * WALKERS_SIGHT;
+                default:
+                    return WALKERS_SIGHT;
+            }
         }
 
         /** Whether a KIND is the wanted one or under it; a KIND above has always the lesser number. */
         static boolean isUnder(int kind, int wanted) {
             int k = kind;
             for (int i = 0; i < LAST && k > wanted; i++) {
-                k = ABOVE[k];
+                k = above(k);
             }
             return k == wanted;
+        }
+
+        private static int above(int kind) {
+            switch (kind) {
+                case BLIND:
+                    return LOVER;
+                case ENVOY:
+                    return SOLDIER;
+                default:
+                    return WALKER;
+            }
         }
 
         static int goes(int kind, int pace, boolean isLed, int round, int minute) {
@@ -634,7 +656,9 @@ public final class BackAvenue {
         private static final int FIRST_PACE = 2;
         private static final int TRAM_SPEED = 4;
         private static final int TRAM_RIDE = 5;
-        private static final int[] MOST = {Kinds.LAST, LAST_PLACE, 1, 9, 1, 999, 999};
+        private static final int MOST_PACE = 9;
+        /** FINES and BUMPS are held to it. */
+        private static final int MOST_COUNTED = 999;
 
         int minute = 0;
         int trams = 1;
@@ -648,7 +672,19 @@ public final class BackAvenue {
         final int[] bumps = new int[MOST_WALKERS];
 
         static int most(int what) {
-            return MOST[what];
+            switch (what) {
+                case KIND:
+                    return Kinds.LAST;
+                case PLACE:
+                    return LAST_PLACE;
+                case PACE:
+                    return MOST_PACE;
+                case BOUND:
+                case ROUND:
+                    return 1;
+                default:
+                    return MOST_COUNTED;
+            }
         }
 
         int[] row(int what) {
@@ -819,11 +855,11 @@ public final class BackAvenue {
         }
 
         private void bump(int w, int other) {
-            bumps[w] = Math.min(bumps[w] + 1, MOST[BUMPS]);
-            bumps[other] = Math.min(bumps[other] + 1, MOST[BUMPS]);
+            bumps[w] = Math.min(bumps[w] + 1, MOST_COUNTED);
+            bumps[other] = Math.min(bumps[other] + 1, MOST_COUNTED);
             if (Kinds.turns(kind[w], pace[w])) {
                 round[w] = 1 - round[w];
-                fines[w] = Math.min(fines[w] + round[w], MOST[FINES]);
+                fines[w] = Math.min(fines[w] + round[w], MOST_COUNTED);
             }
         }
 

@@ -52,6 +52,20 @@ public final class FaceTest extends Checks {
         }
     }
 
+    static void classesInside() {
+        Set<String> names = Arrays.stream(FACE).map(f -> f.replaceAll(".* |\\(.*", "")).collect(Collectors.toSet());
+        Class<?>[] inside = BackAvenue.class.getDeclaredClasses();
+        due("rule 11: some twelve classes", inside.length <= 11 ? 1 : 0, 1);
+        for (Class<?> c : inside) {
+            int m = c.getModifiers();
+            boolean fits = Modifier.isStatic(m) && !Modifier.isPublic(m) && !Modifier.isProtected(m);
+            due("rule 1 of class " + c.getName(), fits ? 1 : 0, 1);
+            for (Method method : c.getDeclaredMethods()) {
+                due("rule 1 of " + c.getName() + "." + method.getName(), names.contains(method.getName()) ? 1 : 0, 0);
+            }
+        }
+    }
+
     private static String signature(Method m) {
         String types = Arrays.stream(m.getParameterTypes()).map(Class::getName).collect(Collectors.joining(","));
         return m.getReturnType().getName() + " " + m.getName() + "(" + types + ")";
