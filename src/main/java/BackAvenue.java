@@ -21,7 +21,6 @@ public final class BackAvenue {
     private final Avenue kept;
     private boolean isKept;
     private final Tape tape;
-    private final TextReader reader;
     private final Sheet[] sheets;
     private final int[] found;
 
@@ -31,7 +30,6 @@ public final class BackAvenue {
         kept = new Avenue();
         isKept = false;
         tape = new Tape();
-        reader = new TextReader(tape);
         sheets = new Sheet[] {new Sheet(), new Sheet(), new Sheet(), new Sheet()};
         found = new int[FINDINGS];
     }
@@ -293,7 +291,7 @@ public final class BackAvenue {
 
     public int avenue() {
         lookAhead();
-        int items = reader.readInto(ahead);
+        int items = TextReader.readInto(ahead, tape);
         if (items >= 0) {
             present.copyFrom(ahead);
         }
@@ -875,11 +873,18 @@ public final class BackAvenue {
         }
     }
 
+    /** THE TAPE, and the TOKEN of it that is looked at: the first one not taken yet. */
     private static final class Tape {
         static final int LONGEST = 120;
 
-        final byte[] bytes = new byte[LONGEST];
+        private static final int LETTER = 1;
+        private static final int DIGIT = 2;
+        private static final int OTHER = 3;
+
         int length = 0;
+        private final byte[] bytes = new byte[LONGEST];
+        private int start = 0;
+        private int end = 0;
 
         boolean hasRoomFor(int n) {
             return n <= LONGEST - length;
@@ -891,96 +896,42 @@ public final class BackAvenue {
                 length++;
             }
         }
-    }
 
-    /** Reads THE TEXT of an AVENUE, TOKEN by TOKEN; the TOKEN looked at is the first one not taken yet. */
-    private static final class TextReader {
-        private static final int LETTER = 1;
-        private static final int DIGIT = 2;
-        private static final int OTHER = 3;
-
-        private final Tape tape;
-        private int start = 0;
-        private int end = 0;
-
-        TextReader(Tape tape) {
-            this.tape = tape;
-        }
-
-        /** How many ITEMS came to an avenue, or -1 less the FAULT: the place of the TOKEN that nobody took. */
-        int readInto(Avenue avenue) {
+        void lookAtFirst() {
             end = 0;
             lookAtNext();
-            for (int items = 1; items <= Tape.LONGEST; items++) {
-                if (!takeItem(avenue)) {
-                    return -1 - start;
-                }
-                if (start == tape.length) {
-                    return items;
-                }
-                if (!take(";")) {
-                    return -1 - start;
-                }
-            }
-            return -1 - start;
         }
 
-        private boolean takeItem(Avenue avenue) {
-            if (take("trams")) {
-                avenue.trams = 1;
-                return true;
-            }
-            if (take("quiet")) {
-                avenue.trams = 0;
-                return true;
-            }
-            return takeWalker(avenue);
+        /** Where the TOKEN looked at begins; how many bytes there are if all are taken. */
+        int looksAt() {
+            return start;
         }
 
-        private boolean takeWalker(Avenue avenue) {
-            // The name for a 9th is itself the FAULT, so it isn't taken.
-            int kind = avenue.isFull() ? -1 : takeKind();
-            if (kind < 0 || !take("at")) {
+        boolean isAllTaken() {
+            return start == length;
+        }
+
+        boolean take(String token) {
+            if (end - start != token.length()) {
                 return false;
             }
-            int place = takeNumber(Avenue.LAST_PLACE);
-            if (place < 0) {
-                return false;
-            }
-            int w = avenue.add(kind, place);
-            if (take("back")) {
-                avenue.bound[w] = 0;
-            }
-            if (take("pace")) {
-                int pace = takeNumber(Avenue.most(Avenue.PACE));
-                if (pace < 0) {
+            for (int i = 0; i < token.length(); i++) {
+                if (bytes[start + i] != token.charAt(i)) {
                     return false;
                 }
-                avenue.pace[w] = pace;
             }
-            if (take("round")) {
-                avenue.round[w] = 1;
-            }
+            lookAtNext();
             return true;
         }
 
-        private int takeKind() {
-            for (int kind = 0; kind <= Kinds.LAST; kind++) {
-                if (take(Kinds.name(kind))) {
-                    return kind;
-                }
-            }
-            return -1;
-        }
-
         /** The NUMBER looked at, or -1 if there is none or it is above most (99 at most, so that it can't wrap). */
-        private int takeNumber(int most) {
-            if (start == tape.length || sortOf(tape.bytes[start]) != DIGIT) {
+        int takeNumber(int most) {
+            if (isAllTaken() || sortOf(bytes[start]) != DIGIT) {
                 return -1;
             }
             int number = 0;
             for (int i = start; i < end; i++) {
-                number = 10 * number + tape.bytes[i] - '0';
+                number = 10 * number + bytes[i] - '0';
                 if (number > most) {
                     return -1;
                 }
@@ -989,31 +940,18 @@ public final class BackAvenue {
             return number;
         }
 
-        private boolean take(String token) {
-            if (end - start != token.length()) {
-                return false;
-            }
-            for (int i = 0; i < token.length(); i++) {
-                if (tape.bytes[start + i] != token.charAt(i)) {
-                    return false;
-                }
-            }
-            lookAtNext();
-            return true;
-        }
-
         private void lookAtNext() {
             start = end;
-            while (start < tape.length && tape.bytes[start] == ' ') {
+            while (start < length && bytes[start] == ' ') {
                 start++;
             }
             end = start;
-            if (start == tape.length) {
+            if (isAllTaken()) {
                 return;
             }
-            int sort = sortOf(tape.bytes[start]);
+            int sort = sortOf(bytes[start]);
             end++;
-            while (sort != OTHER && end < tape.length && sortOf(tape.bytes[end]) == sort) {
+            while (sort != OTHER && end < length && sortOf(bytes[end]) == sort) {
                 end++;
             }
         }
@@ -1023,6 +961,74 @@ public final class BackAvenue {
                 return LETTER;
             }
             return b >= '0' && b <= '9' ? DIGIT : OTHER;
+        }
+    }
+
+    /** Reads THE TEXT of an AVENUE; it has nothing of its own, so that nobody need hand it a part of an object. */
+    private static final class TextReader {
+        /** How many ITEMS came to an avenue, or -1 less the FAULT: the place of the TOKEN that nobody took. */
+        static int readInto(Avenue avenue, Tape tape) {
+            tape.lookAtFirst();
+            for (int items = 1; items <= Tape.LONGEST; items++) {
+                if (!takeItem(avenue, tape)) {
+                    return -1 - tape.looksAt();
+                }
+                if (tape.isAllTaken()) {
+                    return items;
+                }
+                if (!tape.take(";")) {
+                    return -1 - tape.looksAt();
+                }
+            }
+            return -1 - tape.looksAt();
+        }
+
+        private static boolean takeItem(Avenue avenue, Tape tape) {
+            if (tape.take("trams")) {
+                avenue.trams = 1;
+                return true;
+            }
+            if (tape.take("quiet")) {
+                avenue.trams = 0;
+                return true;
+            }
+            return takeWalker(avenue, tape);
+        }
+
+        private static boolean takeWalker(Avenue avenue, Tape tape) {
+            // The name for a 9th is itself the FAULT, so it isn't taken.
+            int kind = avenue.isFull() ? -1 : takeKind(tape);
+            if (kind < 0 || !tape.take("at")) {
+                return false;
+            }
+            int place = tape.takeNumber(Avenue.LAST_PLACE);
+            if (place < 0) {
+                return false;
+            }
+            int w = avenue.add(kind, place);
+            if (tape.take("back")) {
+                avenue.bound[w] = 0;
+            }
+            if (tape.take("pace")) {
+                int pace = tape.takeNumber(Avenue.most(Avenue.PACE));
+                if (pace < 0) {
+                    return false;
+                }
+                avenue.pace[w] = pace;
+            }
+            if (tape.take("round")) {
+                avenue.round[w] = 1;
+            }
+            return true;
+        }
+
+        private static int takeKind(Tape tape) {
+            for (int kind = 0; kind <= Kinds.LAST; kind++) {
+                if (tape.take(Kinds.name(kind))) {
+                    return kind;
+                }
+            }
+            return -1;
         }
     }
 

@@ -42,6 +42,11 @@ final class Document {
         return sentences.stream().filter(s -> s.contains(quote)).findFirst().orElse(null);
     }
 
+    /** The call of a promise, as it stands there. */
+    static String call(int promise) {
+        return between("## Promise " + promise + ": ", "\n## ").replaceFirst("(?s)^[^`]*`([^`]*)`: .*$", "$1");
+    }
+
     private static String section(int section) {
         if (section == TERMS) {
             return plain(between("## Terms\n", "\nAhead of the calls"));

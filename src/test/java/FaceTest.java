@@ -1,10 +1,13 @@
 import java.io.IOException;
 import java.lang.reflect.Constructor;
+import java.lang.reflect.Field;
 import java.lang.reflect.Method;
 import java.lang.reflect.Modifier;
 import java.nio.file.Files;
 import java.nio.file.Path;
+import java.util.ArrayList;
 import java.util.Arrays;
+import java.util.List;
 import java.util.Random;
 import java.util.Set;
 import java.util.TreeSet;
@@ -60,8 +63,31 @@ public final class FaceTest extends Checks {
             int m = c.getModifiers();
             boolean fits = Modifier.isStatic(m) && !Modifier.isPublic(m) && !Modifier.isProtected(m);
             due("rule 1 of class " + c.getName(), fits ? 1 : 0, 1);
+            for (Constructor<?> constructor : c.getDeclaredConstructors()) {
+                // What takes nothing can't be handed a part of the object that is being made.
+                due("rule 12: what making a " + c.getName() + " takes", constructor.getParameterCount(), 0);
+            }
             for (Method method : c.getDeclaredMethods()) {
                 due("rule 1 of " + c.getName() + "." + method.getName(), names.contains(method.getName()) ? 1 : 0, 0);
+            }
+        }
+    }
+
+    /** Rules 5 and 11, of the class and of those inside it. */
+    static void fieldsAndParameters() {
+        List<Class<?>> classes = new ArrayList<>(List.of(BackAvenue.class.getDeclaredClasses()));
+        classes.add(BackAvenue.class);
+        for (Class<?> c : classes) {
+            int fields = 0;
+            for (Field f : c.getDeclaredFields()) {
+                boolean isStatic = Modifier.isStatic(f.getModifiers());
+                boolean isConstant = Modifier.isFinal(f.getModifiers()) && f.getType() == int.class;
+                due("rule 5 of " + c.getName() + "." + f.getName(), !isStatic || isConstant ? 1 : 0, 1);
+                fields += isStatic ? 0 : 1;
+            }
+            due("rule 11: fields of " + c.getName(), fields <= 20 ? 1 : 0, 1);
+            for (Method m : c.getDeclaredMethods()) {
+                due("rule 11: parameters of " + m.getName(), m.getParameterCount() <= 7 ? 1 : 0, 1);
             }
         }
     }
